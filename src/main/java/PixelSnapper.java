@@ -246,8 +246,8 @@ public final class PixelSnapper {
     }
 
     private boolean addPlaces(Segment segment) {
-        long last = segment.mostKey();
-        for (int h = hot.firstFrom(segment.leastKey()); h < hot.size() && hot.at(h) <= last; h++) {
+        int end = hot.firstFrom(segment.mostKey() + 1);
+        for (int h = hot.firstFrom(segment.leastKey()); h < end; h++) {
             long key = hot.at(h);
             if (segment.enters(keyX(key), keyY(key)) && !places.add(h)) {
                 return false;
@@ -304,6 +304,10 @@ public final class PixelSnapper {
         private final long toY;
         private final long wayX;
         private final long wayY;
+        private final long leastX;
+        private final long leastY;
+        private final long mostX;
+        private final long mostY;
 
         Segment(int x, int y, int endX, int endY) {
             fromX = x;
@@ -312,6 +316,10 @@ public final class PixelSnapper {
             toY = endY;
             wayX = toX - fromX;
             wayY = toY - fromY;
+            leastX = Math.min(fromX, toX);
+            leastY = Math.min(fromY, toY);
+            mostX = Math.max(fromX, toX);
+            mostY = Math.max(fromY, toY);
         }
 
         long fromKey() {
@@ -324,12 +332,12 @@ public final class PixelSnapper {
 
         /** No pixel that the segment meets has a lower key. */
         long leastKey() {
-            return keyOf(Math.min(fromX, toX), Math.min(fromY, toY));
+            return keyOf(leastX, leastY);
         }
 
         /** No pixel that the segment meets has a higher key. */
         long mostKey() {
-            return keyOf(Math.max(fromX, toX), Math.max(fromY, toY));
+            return keyOf(mostX, mostY);
         }
 
         boolean goesLeft() {
@@ -345,9 +353,7 @@ public final class PixelSnapper {
          * ends have a place in common when each two of them have.
          */
         boolean enters(long x, long y) {
-            return x >= Math.min(fromX, toX) && x <= Math.max(fromX, toX)
-                    && y >= Math.min(fromY, toY) && y <= Math.max(fromY, toY)
-                    && lineEnters(x, y);
+            return x >= leastX && x <= mostX && y >= leastY && y <= mostY && lineEnters(x, y);
         }
 
         /**

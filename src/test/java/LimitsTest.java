@@ -4,7 +4,7 @@ import java.util.List;
 public final class LimitsTest {
     public static void main(String[] args) {
         mostHotPixels();
-        mostHotPixelsOfRepeatedCrossings();
+        repeatedCrossings();
         farTooManyCrossings();
         mostPlaces();
         mostSegments();
@@ -33,6 +33,9 @@ public final class LimitsTest {
         Checks.due("8192 hot: count(1)", snapper.count(1), 8192);
         Checks.due("8192 hot: places", snapper.count(3), 176 * 90 + 96);
         Checks.due("8192 hot: pieces", snapper.count(2), 176 * 89);
+        // The last crossing, of number 88 + 87 * 90 + 88, and the right end beside it.
+        Checks.due("8192 hot: last piece, lower", snapper.piece(176 * 89 - 1, 0), 8006);
+        Checks.due("8192 hot: last piece, higher", snapper.piece(176 * 89 - 1, 1), 8095);
         Checks.due("8192 hot: last pixel", snapper.pixel(8191, 1), 95);
         Checks.due("8192 hot: last chain", snapper.chainAt(271, 0), 8191);
         snapper.segment(1000, 95, 1000, 95);
@@ -47,8 +50,8 @@ public final class LimitsTest {
         Checks.dueChain("behind a refusal", snapper, 0, 0, 1);
     }
 
-    /** 200 by 200 lines with steep ones doubled cross 40000 times, but in few pixels. */
-    private static void mostHotPixelsOfRepeatedCrossings() {
+    /** 200 by 200 lines, many of them the same, cross 40000 times, but in 6 pixels. */
+    private static void repeatedCrossings() {
         PixelSnapper snapper = new PixelSnapper();
         for (int s = 0; s < 200; s++) {
             snapper.segment(s % 2, -10, s % 2, 10);

@@ -185,6 +185,7 @@ public final class PromisesTest {
         dueNoCrossing("apart", flat, Checks.line(0, 1, 10, 2));
         dueNoCrossing("only the lines cross", flat, Checks.line(12, -1, 12, 1));
         dueNoCrossing("an end on it", flat, Checks.line(5, 0, 5, 5));
+        dueNoCrossing("the other end on it", flat, Checks.line(5, -5, 5, 0));
         dueNoCrossing("a common end", flat, Checks.line(10, 0, 12, 3));
         dueNoCrossing("a common end on one line", flat, Checks.line(10, 0, 20, 0));
         dueNoCrossing("an overlap", flat, Checks.line(5, 0, 15, 0));

@@ -32,11 +32,7 @@ public final class RoomTest {
         snapper.snap();
         snapper.segment(0, 0, 800, 0);
         for (int call = 0; call < 18; call++) {
-            try {
-                snapper.snap();
-            } catch (UnsupportedOperationException tooMuch) {
-                continue;
-            }
+            snapIfItCan(snapper);
         }
     }
 
@@ -49,11 +45,17 @@ public final class RoomTest {
             } else {
                 snapper.segment(-4, at, 600, at);
             }
-            try {
-                snapper.snap();
-            } catch (UnsupportedOperationException tooMuch) {
-                continue;
-            }
+            snapIfItCan(snapper);
+        }
+    }
+
+    /** A refused snap takes room too. */
+    private static boolean snapIfItCan(PixelSnapper snapper) {
+        try {
+            snapper.snap();
+            return true;
+        } catch (UnsupportedOperationException tooMuch) {
+            return false;
         }
     }
 }
