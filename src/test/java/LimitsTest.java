@@ -1,13 +1,15 @@
 import java.util.List;
 
-/** The document's limits, at the last that is allowed and the first that is not. */
+/** The boundary cases of a full object: the document's limits, at the last that is allowed and one past it. */
 public final class LimitsTest {
     public static void main(String[] args) {
         mostHotPixels();
         repeatedCrossings();
         farTooManyCrossings();
         mostPlaces();
+        noneIsThereThen();
         mostSegments();
+        mostSegmentsFirstListed();
         Checks.end();
     }
 
@@ -27,6 +29,7 @@ public final class LimitsTest {
         return Checks.drawn(lines.toArray(new int[0][]));
     }
 
+    /** Promise 4: "UnsupportedOperationException, when there would be more than 8192" */
     private static void mostHotPixels() {
         PixelSnapper snapper = fullOfHot();
         Checks.due("8192 hot: snap()", snapper.snap(), 8192);
@@ -38,19 +41,16 @@ public final class LimitsTest {
         Checks.due("8192 hot: last piece, higher", snapper.piece(176 * 89 - 1, 1), 8095);
         Checks.due("8192 hot: last pixel", snapper.pixel(8191, 1), 95);
         Checks.due("8192 hot: last chain", snapper.chainAt(271, 0), 8191);
+        Checks.dueThrow("8192 hot: behind the last pixel", Checks.INDEX, () -> snapper.pixel(8192, 0));
+        Checks.dueThrow("8192 hot: behind the last piece", Checks.INDEX, () -> snapper.piece(176 * 89, 0));
+        Checks.dueThrow("8192 hot: behind the last place", Checks.INDEX, () -> snapper.chainAt(271, 1));
         snapper.segment(1000, 95, 1000, 95);
         Checks.due("a hot pixel again: snap()", snapper.snap(), 8192);
         snapper.segment(1000, 96, 1000, 96);
         dueRefused("8193 hot", snapper, 274);
-        Checks.due("refused: meets", snapper.meets(0, 0, 0), true);
-        Checks.due("refused: crossing", snapper.crossing(0, 88, 0), 0);
-        snapper.clear();
-        snapper.segment(0, 0, 1, 1);
-        Checks.due("behind a refusal: snap()", snapper.snap(), 2);
-        Checks.dueChain("behind a refusal", snapper, 0, 0, 1);
     }
 
-    /** 200 by 200 lines, many of them the same, cross 40000 times, but in 6 pixels. */
+    /** Promise 4, the same: crossings are no limit. 200 by 200 lines cross 40000 times, but in 6 pixels. */
     private static void repeatedCrossings() {
         PixelSnapper snapper = new PixelSnapper();
         for (int s = 0; s < 200; s++) {
@@ -63,12 +63,14 @@ public final class LimitsTest {
         Checks.due("repeated crossings: uses", snapper.piece(0, 2), 67);
     }
 
+    /** Promise 4, the same: far past the limit. */
     private static void farTooManyCrossings() {
         PixelSnapper snapper = Checks.drawn(Checks.grid(200, 200).toArray(new int[0][]));
         dueRefused("40000 crossings", snapper, 400);
     }
 
     /**
+     * Promise 4: "or more than 65536 places in all chains together"
      * 200 verticals of 32 places, and horizontals on 30 rows, 292 of 202 places and one of 152, make 65536.
      */
     private static void mostPlaces() {
@@ -86,18 +88,50 @@ public final class LimitsTest {
         dueRefused("65537 places", snapper, 494);
     }
 
-    /** An object's 2048 segments need more than its 512 calls; the promise names the limit all the same. */
+    /** Promise 4: "(none is there then)": of the snap before neither; the segments stay. */
+    private static void noneIsThereThen() {
+        PixelSnapper snapper = fullOfHot();
+        snapper.snap();
+        snapper.segment(1000, 96, 1000, 97);
+        dueRefused("refused", snapper, 273);
+        Checks.due("refused: meets", snapper.meets(272, 1000, 97), true);
+        Checks.due("refused: crossing", snapper.crossing(0, 88, 0), 0);
+        Checks.dueThrow("refused: last chain", Checks.STATE, () -> snapper.chain(272));
+        Checks.due("refused: segment()", snapper.segment(0, 0, 0, 0), 273);
+        Checks.due("refused: clear()", snapper.clear(), 274);
+        Checks.dueNothingSnapped("refused and cleared", snapper);
+        snapper.segment(0, 0, 1, 1);
+        Checks.due("behind a refusal: snap()", snapper.snap(), 2);
+        Checks.dueChain("behind a refusal", snapper, 0, 0, 1);
+        Checks.due("behind a refusal: pieces", snapper.count(2), 1);
+    }
+
+    /**
+     * Promise 2: "IllegalStateException, when there are 2048"
+     * So many need more calls than an object's 512, but the promise names the limit all the same.
+     */
     private static void mostSegments() {
         PixelSnapper snapper = new PixelSnapper();
         for (int s = 0; s < 2048; s++) {
             Checks.due("segment " + s, snapper.segment(s, 0, s, 0), s);
         }
         Checks.dueThrow("one more", Checks.STATE, () -> snapper.segment(0, 0, 0, 0));
-        Checks.dueThrow("one more, and wrong", Checks.ARGUMENT, () -> snapper.segment(0, 0, 0, 500000001));
         Checks.due("2048: snap()", snapper.snap(), 2048);
         Checks.dueThrow("one more, snapped", Checks.STATE, () -> snapper.segment(0, 0, 0, 0));
         Checks.due("refused: count(4)", snapper.count(4), 1);
         Checks.due("last chain", snapper.chainAt(2047, 0), 2047);
+        Checks.dueThrow("2048: chain behind the last", Checks.INDEX, () -> snapper.chain(2048));
         Checks.due("2048: clear()", snapper.clear(), 2048);
+        Checks.due("room again", snapper.segment(0, 0, 0, 0), 0);
+    }
+    /** Promise 2, and "Of several exceptions the first one listed is thrown". */
+    private static void mostSegmentsFirstListed() {
+        PixelSnapper snapper = new PixelSnapper();
+        for (int s = 0; s < 2048; s++) {
+            snapper.segment(0, 0, 0, 0);
+        }
+        Checks.dueThrow("full", Checks.STATE, () -> snapper.segment(500000000, 0, 0, -500000000));
+        Checks.dueThrow("full, x", Checks.ARGUMENT, () -> snapper.segment(-500000001, 0, 0, 0));
+        Checks.dueThrow("full, toY", Checks.ARGUMENT, () -> snapper.segment(0, 0, 0, 500000001));
     }
 }

@@ -1,24 +1,18 @@
-/** Each promise by ordinary inputs, the edges that the document names, and wrong inputs. */
+/** Each promise by ordinary inputs; its boundary cases are in BoundariesTest, LimitsTest and TermsTest. */
 public final class PromisesTest {
     private static final int FAR = 500000000;
 
     public static void main(String[] args) {
         newObject();
         segmentNumbers();
-        segmentRefuses();
         clearDrops();
         snapFinds();
         snapIsForgotten();
         meetsHalfOpen();
-        meetsRefuses();
         crossingPlaces();
-        crossingRefuses();
         pixelOrder();
-        pixelRefuses();
         chainDirections();
-        chainRefuses();
         pieceOrder();
-        pieceRefuses();
         countKinds();
         Checks.end();
     }
@@ -46,21 +40,6 @@ public final class PromisesTest {
         Checks.due("the farthest ends", snapper.segment(-FAR, -FAR, FAR, FAR), 102);
         Checks.due("the farthest ends back", snapper.segment(FAR, -FAR, -FAR, FAR), 103);
         Checks.due("count(0)", snapper.count(0), 104);
-    }
-
-    private static void segmentRefuses() {
-        PixelSnapper snapper = Checks.snapped(Checks.line(0, 0, 5, 5));
-        int[] wrongs = {FAR + 1, -FAR - 1, Integer.MAX_VALUE, Integer.MIN_VALUE};
-        for (int bad : wrongs) {
-            Checks.dueThrow("x " + bad, Checks.ARGUMENT, () -> snapper.segment(bad, 0, 0, 0));
-            Checks.dueThrow("y " + bad, Checks.ARGUMENT, () -> snapper.segment(0, bad, 0, 0));
-            Checks.dueThrow("toX " + bad, Checks.ARGUMENT, () -> snapper.segment(0, 0, bad, 0));
-            Checks.dueThrow("toY " + bad, Checks.ARGUMENT, () -> snapper.segment(0, 0, 0, bad));
-        }
-        Checks.due("refused: count(0)", snapper.count(0), 1);
-        Checks.due("refused: count(4)", snapper.count(4), 1);
-        Checks.due("refused: chain(0)", snapper.chain(0), 2);
-        Checks.due("behind refused", snapper.segment(1, 1, 2, 2), 1);
     }
 
     private static void clearDrops() {
@@ -140,18 +119,6 @@ public final class PromisesTest {
         Checks.due("farthest pixel", snapper.meets(7, -FAR, FAR), false);
     }
 
-    private static void meetsRefuses() {
-        PixelSnapper snapper = Checks.drawn(Checks.line(0, 0, 4, 4));
-        for (int bad : new int[] {-1, 1, 2048, Integer.MAX_VALUE, Integer.MIN_VALUE}) {
-            Checks.dueThrow("meets of " + bad, Checks.INDEX, () -> snapper.meets(bad, 0, 0));
-            Checks.dueThrow("meets of and at " + bad, Checks.INDEX, () -> snapper.meets(bad, FAR + 1, 0));
-        }
-        for (int bad : new int[] {FAR + 1, -FAR - 1, Integer.MAX_VALUE, Integer.MIN_VALUE}) {
-            Checks.dueThrow("meets at x " + bad, Checks.ARGUMENT, () -> snapper.meets(0, bad, 0));
-            Checks.dueThrow("meets at y " + bad, Checks.ARGUMENT, () -> snapper.meets(0, 0, bad));
-        }
-    }
-
     private static void dueCrossing(String name, int[] one, int[] other, int x, int y) {
         PixelSnapper snapper = Checks.drawn(one, other);
         Checks.due(name + ": x", snapper.crossing(0, 1, 0), x);
@@ -171,37 +138,6 @@ public final class PromisesTest {
         dueCrossing("far corner", Checks.line(FAR - 1, FAR, FAR, FAR - 1), Checks.line(-FAR, -FAR, FAR, FAR), FAR, FAR);
     }
 
-    private static void dueNoCrossing(String name, int[] one, int[] other) {
-        PixelSnapper snapper = Checks.drawn(one, other);
-        for (int what = 0; what <= 1; what++) {
-            int asked = what;
-            Checks.dueThrow(name, Checks.STATE, () -> snapper.crossing(0, 1, asked));
-            Checks.dueThrow(name + " from the other", Checks.STATE, () -> snapper.crossing(1, 0, asked));
-        }
-    }
-
-    private static void crossingRefuses() {
-        int[] flat = Checks.line(0, 0, 10, 0);
-        dueNoCrossing("apart", flat, Checks.line(0, 1, 10, 2));
-        dueNoCrossing("only the lines cross", flat, Checks.line(12, -1, 12, 1));
-        dueNoCrossing("an end on it", flat, Checks.line(5, 0, 5, 5));
-        dueNoCrossing("the other end on it", flat, Checks.line(5, -5, 5, 0));
-        dueNoCrossing("a common end", flat, Checks.line(10, 0, 12, 3));
-        dueNoCrossing("a common end on one line", flat, Checks.line(10, 0, 20, 0));
-        dueNoCrossing("an overlap", flat, Checks.line(5, 0, 15, 0));
-        dueNoCrossing("the same", flat, flat);
-        dueNoCrossing("a point on it", flat, Checks.point(5, 0));
-        dueNoCrossing("the same point", Checks.point(5, 0), Checks.point(5, 0));
-        PixelSnapper snapper = Checks.drawn(flat, Checks.line(5, -5, 5, 5));
-        Checks.dueThrow("with itself", Checks.STATE, () -> snapper.crossing(0, 0, 0));
-        for (int bad : new int[] {-1, 2, Integer.MAX_VALUE, Integer.MIN_VALUE}) {
-            Checks.dueThrow("segment " + bad, Checks.INDEX, () -> snapper.crossing(bad, 1, 0));
-            Checks.dueThrow("other " + bad, Checks.INDEX, () -> snapper.crossing(0, bad, 0));
-            Checks.dueThrow("what " + bad, Checks.INDEX, () -> snapper.crossing(0, 1, bad));
-            Checks.dueThrow("what " + bad + ", no crossing", Checks.INDEX, () -> snapper.crossing(0, 0, bad));
-        }
-    }
-
     private static void pixelOrder() {
         PixelSnapper snapper = Checks.snapped(Checks.line(3, -2, -3, 4), Checks.line(3, 5, 3, -7),
                 Checks.line(-FAR, FAR, FAR, -FAR), Checks.point(-3, -4));
@@ -211,16 +147,6 @@ public final class PromisesTest {
             Checks.due("pixel(" + p + ", 0)", snapper.pixel(p, 0), want[p][0]);
             Checks.due("pixel(" + p + ", 1)", snapper.pixel(p, 1), want[p][1]);
         }
-    }
-
-    private static void pixelRefuses() {
-        PixelSnapper snapper = Checks.snapped(Checks.line(0, 0, 4, 4));
-        for (int bad : new int[] {-1, 2, Integer.MAX_VALUE, Integer.MIN_VALUE}) {
-            Checks.dueThrow("pixel " + bad, Checks.INDEX, () -> snapper.pixel(bad, 0));
-            Checks.dueThrow("pixel's what " + bad, Checks.INDEX, () -> snapper.pixel(0, bad));
-        }
-        PixelSnapper unsnapped = Checks.drawn(Checks.line(0, 0, 4, 4));
-        Checks.dueThrow("pixel without snap()", Checks.INDEX, () -> unsnapped.pixel(0, 0));
     }
 
     /** One steep and one flat way, each in all four directions, with two hot pixels in one column or row. */
@@ -268,21 +194,6 @@ public final class PromisesTest {
         Checks.due(name + ": chain(1)", snapper.chain(1), met);
     }
 
-    private static void chainRefuses() {
-        PixelSnapper snapper = Checks.snapped(Checks.line(0, 0, 4, 4), Checks.point(0, 0));
-        PixelSnapper unsnapped = Checks.drawn(Checks.line(0, 0, 4, 4));
-        for (int bad : new int[] {-1, 2, Integer.MAX_VALUE, Integer.MIN_VALUE}) {
-            Checks.dueThrow("chain of " + bad, Checks.INDEX, () -> snapper.chain(bad));
-            Checks.dueThrow("chainAt of " + bad, Checks.INDEX, () -> snapper.chainAt(bad, 0));
-            Checks.dueThrow("chainAt k " + bad, Checks.INDEX, () -> snapper.chainAt(0, bad));
-            Checks.dueThrow("unsnapped: chain of " + bad, Checks.INDEX, () -> unsnapped.chain(bad));
-            Checks.dueThrow("unsnapped: chainAt of " + bad, Checks.INDEX, () -> unsnapped.chainAt(bad, 0));
-            Checks.dueThrow("unsnapped: chainAt k " + bad, Checks.STATE, () -> unsnapped.chainAt(0, bad));
-        }
-        Checks.dueThrow("behind a short chain", Checks.INDEX, () -> snapper.chainAt(1, 1));
-        Checks.dueThrow("unsnapped: chain", Checks.STATE, () -> unsnapped.chain(0));
-    }
-
     private static void duePiece(PixelSnapper snapper, int piece, int... want) {
         for (int what = 0; what < want.length; what++) {
             Checks.due("piece(" + piece + ", " + what + ")", snapper.piece(piece, what), want[what]);
@@ -300,17 +211,6 @@ public final class PromisesTest {
         duePiece(snapper, 3, 2, 3, 1);
         duePiece(snapper, 4, 2, 4, 1);
         Checks.due("points have no pieces", Checks.snapped(Checks.point(1, 1), Checks.point(2, 2)).count(2), 0);
-    }
-
-    private static void pieceRefuses() {
-        PixelSnapper snapper = Checks.snapped(Checks.line(0, 0, 4, 4));
-        for (int bad : new int[] {-1, 3, Integer.MAX_VALUE, Integer.MIN_VALUE}) {
-            Checks.dueThrow("piece " + bad, Checks.INDEX, () -> snapper.piece(bad, 0));
-            Checks.dueThrow("piece's what " + bad, Checks.INDEX, () -> snapper.piece(0, bad));
-        }
-        Checks.dueThrow("behind the last piece", Checks.INDEX, () -> snapper.piece(1, 0));
-        PixelSnapper unsnapped = Checks.drawn(Checks.line(0, 0, 4, 4));
-        Checks.dueThrow("piece without snap()", Checks.INDEX, () -> unsnapped.piece(0, 0));
     }
 
     private static void countKinds() {
