@@ -124,6 +124,7 @@ public final class LimitsTest {
         Checks.due("2048: clear()", snapper.clear(), 2048);
         Checks.due("room again", snapper.segment(0, 0, 0, 0), 0);
     }
+
     /** Promise 2, and "Of several exceptions the first one listed is thrown". */
     private static void mostSegmentsFirstListed() {
         PixelSnapper snapper = new PixelSnapper();

@@ -168,8 +168,10 @@ public final class TermsTest {
     /** "which is an end of neither" */
     private static void crossInAnEndOfNeither() {
         int[] flat = Checks.line(0, 0, 10, 0);
-        dueNoCrossing("the other's first end", flat, Checks.line(5, 0, 5, 5));
-        dueNoCrossing("the other's second end", flat, Checks.line(5, -5, 5, 0));
+        dueNoCrossing("the other's first end, from above", flat, Checks.line(5, 0, 5, 5));
+        dueNoCrossing("the other's first end, from below", flat, Checks.line(5, 0, 5, -5));
+        dueNoCrossing("the other's second end, from above", flat, Checks.line(5, 5, 5, 0));
+        dueNoCrossing("the other's second end, from below", flat, Checks.line(5, -5, 5, 0));
         dueNoCrossing("an end of both", flat, Checks.line(10, 0, 12, 3));
         dueNoCrossing("an end of both on one line", flat, Checks.line(10, 0, 20, 0));
         dueNoCrossing("a point on it", flat, Checks.point(5, 0));
@@ -316,6 +318,9 @@ public final class TermsTest {
         for (int what = 0; what < same.length; what++) {
             Checks.due("the same again: count(" + what + ")", snapper.count(what), same[what]);
         }
+        snapper.segment(0, 0, 5, 5);
+        Checks.due("one more", snapper.snap(), 5);
+        duePiece(snapper, 0, 0, 2, 2);
         snapper.clear();
         snapper.segment(7, 7, 7, 7);
         Checks.due("fewer", snapper.snap(), 1);
