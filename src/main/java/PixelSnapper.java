@@ -2,8 +2,9 @@ import java.util.ArrayList;
 import java.util.Arrays;
 
 /**
- * Segments of a drawing, bent so that all their corners and crossings lie on whole numbers: each
- * segment becomes a chain of pieces from one hot pixel to the next.
+ * Segments of a drawing, bent so that all their corners and crossings lie on whole numbers, and
+ * nothing crosses anything but at these: each segment becomes a chain of pieces from one hot pixel
+ * to the next.
  */
 public final class PixelSnapper {
     public static final int NONE = -1;

@@ -111,4 +111,29 @@ final class Checks {
         }
         return lines;
     }
+
+    /** Hands out a snapped object, and a new one before the old one has had its 512 calls. */
+    static final class Asked {
+        private final int[][] lines;
+        private PixelSnapper snapper;
+        private int calls;
+
+        Asked(int[][] lines) {
+            this.lines = lines;
+            renew();
+        }
+
+        private void renew() {
+            snapper = snapped(lines);
+            calls = lines.length + 1;
+        }
+
+        PixelSnapper next() {
+            if (calls >= 512) {
+                renew();
+            }
+            calls++;
+            return snapper;
+        }
+    }
 }

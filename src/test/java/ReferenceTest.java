@@ -56,7 +56,7 @@ public final class ReferenceTest {
     }
 
     private static void compare(String name, int[][] lines, boolean eachPixel) {
-        Asked asked = new Asked(lines);
+        Checks.Asked asked = new Checks.Asked(lines);
         List<long[]> hot = hotPixels(lines);
         Checks.due(name + ": count(0)", asked.next().count(0), lines.length);
         Checks.due(name + ": count(1)", asked.next().count(1), hot.size());
@@ -71,7 +71,7 @@ public final class ReferenceTest {
         }
     }
 
-    private static void compareChains(String name, int[][] lines, List<long[]> hot, Asked asked) {
+    private static void compareChains(String name, int[][] lines, List<long[]> hot, Checks.Asked asked) {
         TreeMap<Long, Integer> pieces = new TreeMap<>();
         int places = 0;
         for (int s = 0; s < lines.length; s++) {
@@ -101,7 +101,7 @@ public final class ReferenceTest {
         }
     }
 
-    private static void compareCrossings(String name, int[][] lines, Asked asked) {
+    private static void compareCrossings(String name, int[][] lines, Checks.Asked asked) {
         for (int s = 0; s < lines.length; s++) {
             for (int other = 0; other < lines.length; other++) {
                 String call = name + ": crossing(" + s + ", " + other + ")";
@@ -121,7 +121,7 @@ public final class ReferenceTest {
         }
     }
 
-    private static void compareMeets(String name, int[][] lines, Asked asked) {
+    private static void compareMeets(String name, int[][] lines, Checks.Asked asked) {
         for (int s = 0; s < Math.min(lines.length, 2); s++) {
             int[] line = lines[s];
             for (int x = Math.min(line[0], line[2]) - 1; x <= Math.max(line[0], line[2]) + 1; x++) {
@@ -201,31 +201,6 @@ public final class ReferenceTest {
 
     private static BigInteger big(long number) {
         return BigInteger.valueOf(number);
-    }
-
-    /** Hands out a snapped object, and a new one before the old one has had its 512 calls. */
-    private static final class Asked {
-        private final int[][] lines;
-        private PixelSnapper snapper;
-        private int calls;
-
-        Asked(int[][] lines) {
-            this.lines = lines;
-            renew();
-        }
-
-        private void renew() {
-            snapper = Checks.snapped(lines);
-            calls = lines.length + 1;
-        }
-
-        PixelSnapper next() {
-            if (calls >= 512) {
-                renew();
-            }
-            calls++;
-            return snapper;
-        }
     }
 
     /** The part of a line, from 0 at its first end to 1 at its second one, that is in a pixel. */
